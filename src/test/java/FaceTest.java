@@ -121,6 +121,10 @@ public final class FaceTest {
         CHECK.holds("the text has a lambda or a method reference", !code.contains("->") && !code.contains("::"));
         library(code);
         methodLengths(code);
+        for (String line : code.split("\n")) {
+            boolean ofConstructor = line.matches(" +private final .* = new .*;") || line.contains("bytes = new int[");
+            CHECK.holds("a call makes objects: " + line, ofConstructor || !line.matches(".*\\bnew\\b.*"));
+        }
     }
 
     private static void library(String code) {
