@@ -5,7 +5,9 @@ import java.util.Random;
 /** Long runs of drawn calls, the same each time, on the class and on the plain model side by side. */
 public final class ModelTest {
     private static final int RUNS = 6000;
-    private static final int CALLS = 70;
+    private static final int STEPS = 70;
+    /** An object is promised for 512 calls, and a step takes 40 at most. */
+    private static final int MOST_CALLS = 512 - 2 * 40;
     private static final int MOST_FAILURES = 20;
 
     private final Check check;
@@ -36,7 +38,7 @@ public final class ModelTest {
             newCastle();
         }
         newQuestion();
-        for (int i = 0; i < CALLS && check.failures() == before; i++) {
+        for (int i = 0; i < STEPS && calls.size() < MOST_CALLS && check.failures() == before; i++) {
             call();
         }
         look();

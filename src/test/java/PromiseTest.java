@@ -60,23 +60,15 @@ public final class PromiseTest {
     }
 
     private void newText(String text) {
-        x.wipe();
-        for (int i = 0; i < text.length(); i++) {
-            x.write(text.charAt(i));
-        }
+        Hands.text(x, text);
     }
 
     private void newQuestion(String question) {
-        x.blot();
-        for (int i = 0; i < question.length(); i++) {
-            x.quill(question.charAt(i));
-        }
+        Hands.question(x, question);
     }
 
     private void days(int n) {
-        for (int i = 0; i < n; i++) {
-            x.day();
-        }
+        Hands.days(x, n);
     }
 
     private void newObject() {
