@@ -56,7 +56,7 @@ public final class TrueOnceWeek {
     private long theSeed;
 
     public TrueOnceWeek() {
-        now.begin(theCastle);
+        now.begin(theCastle.firstTrueDay, theCastle.cases);
     }
 
     public int write(int letter) {
@@ -76,7 +76,7 @@ public final class TrueOnceWeek {
             return LATE;
         }
         theCastle.read(theText);
-        now.begin(theCastle);
+        now.begin(theCastle.firstTrueDay, theCastle.cases);
         theActs.forget();
         for (int slot = 0; slot < SLOTS; slot++) {
             isKept[slot] = false;
@@ -138,7 +138,7 @@ public final class TrueOnceWeek {
         if (hasSlip() || !now.canBeAsked()) {
             return LATE;
         }
-        theActs.record(now, theSeed);
+        theActs.remember(now, theSeed);
         int weekday = now.weekday();
         int given = theQuestion.answerIn(weekday, now.trueDay, theCastle.so, FIRST_MIRROR);
         for (int trueDay = 0; trueDay < WEEK; trueDay++) {
@@ -152,7 +152,7 @@ public final class TrueOnceWeek {
     }
 
     public int day() {
-        theActs.record(now, theSeed);
+        theActs.remember(now, theSeed);
         if (now.dayGoesBy()) {
             theSeed = nextSeed(theSeed);
             now.beginMonth(drawnDay(theSeed));
@@ -161,7 +161,7 @@ public final class TrueOnceWeek {
     }
 
     public int cloth() {
-        theActs.record(now, theSeed);
+        theActs.remember(now, theSeed);
         now.clothState = now.clothState == CLOTH_ON ? CLOTH_OFF_TODAY : CLOTH_ON;
         return now.clothState == CLOTH_ON ? 1 : 0;
     }
@@ -785,13 +785,13 @@ public final class TrueOnceWeek {
         private int cracks;
         private final int[] known = new int[WEEK];
 
-        void begin(Castle castle) {
+        void begin(int firstTrueDay, int cases) {
             date = 0;
-            trueDay = castle.firstTrueDay;
+            trueDay = firstTrueDay;
             wasAsked = false;
             clothState = NO_CLOTH;
             cracks = 0;
-            Worlds.fill(known, castle.cases);
+            Worlds.fill(known, cases);
         }
 
         int weekday() {
@@ -851,7 +851,7 @@ public final class TrueOnceWeek {
         private int next;
         private int count;
 
-        void record(Moment moment, long seed) {
+        void remember(Moment moment, long seed) {
             moment.saveTo(moments, next);
             seeds[next] = seed;
             next = (next + 1) % MOST_ACTS;

@@ -107,9 +107,8 @@ public final class RefusalTest {
             all.add((long) x.again(slot));
             glance(x, all);
         }
-        for (char letter : "abcde0123456".toCharArray()) {
-            Hands.question(x, "" + letter);
-            all.add((long) x.parts(1));
+        for (int simple = 0; simple <= 12; simple++) {
+            all.add((long) x.simpleParts(simple, 1));
         }
         all.add((long) x.untell());
         all.add((long) x.castle());
