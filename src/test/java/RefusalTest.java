@@ -117,14 +117,17 @@ public final class RefusalTest {
         return all;
     }
 
+    /** What ACTS change and SLOTS keep. */
     private static void glance(TrueOnceWeek x, List<Long> all) {
-        for (int what = 0; what <= 11; what++) {
+        for (int what : new int[] {1, 2, 3, 4, 5, 6, 10, 11}) {
             all.add((long) x.about(what));
         }
     }
 
     private static void look(TrueOnceWeek x, List<Long> all) {
-        glance(x, all);
+        for (int what = 0; what <= 11; what++) {
+            all.add((long) x.about(what));
+        }
         all.add((long) x.fault());
         all.add((long) x.slip());
         for (int what = 0; what <= 3; what++) {
