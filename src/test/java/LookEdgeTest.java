@@ -19,6 +19,7 @@ public final class LookEdgeTest {
         choiceRows();
         choiceRounds();
         choiceOfAnyDay();
+        choiceEndsWithTheWeek();
         bothEdges();
         bothRoundTheWeek();
         tellLimits();
@@ -299,6 +300,16 @@ public final class LookEdgeTest {
         // 1 .. 6 are KNOWN; 0 is not, yet y on day 1 leaves five by it as by 2 .. 6.
         due("a DAY that is not KNOWN", x.choice(1, 18, 0), 0);
         due("five", x.choice(1, 18, 1), 5);
+    }
+
+    private static void choiceEndsWithTheWeek() {
+        TrueOnceWeek x = Hands.made("M0F00F00", "|ab");
+        due("no", x.ask(), 0);
+        x.day();
+        // By 0 neither is so, by each other DAY one at least. Then a on day 1, "0" on 2 and 3, "5" on 4, "6" on 5: yes
+        // five times would leave two WORLDS (of 1, a is so), but by each DAY of the WEEK there is a no somewhere.
+        due("one is left", x.choice(5, 6061112L, 1), 1);
+        due("by each of the seven", x.choice(5, 6061112L, 0), 0);
     }
 
     private static void bothEdges() {
